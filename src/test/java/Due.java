@@ -1,0 +1,64 @@
+/** Compares answers with those that are due, prints the wrong ones and ends the program by them. */
+final class Due {
+    interface Call {
+        Object answer();
+    }
+
+    static final Class<? extends RuntimeException> INDEX = IndexOutOfBoundsException.class;
+    static final Class<? extends RuntimeException> ARGUMENT = IllegalArgumentException.class;
+    static final Class<? extends RuntimeException> STATE = IllegalStateException.class;
+    static final Class<? extends RuntimeException> ELEMENT = java.util.NoSuchElementException.class;
+
+    private int wrong;
+    private int asked;
+
+    void is(String call, Object want, Call made) {
+        asked++;
+        Object got = answerOf(made);
+        if (!got.equals(want)) {
+            wrong++;
+            System.out.println(call + " answered " + got + ", due is " + want);
+        }
+    }
+
+    /** The call throws just this class, and nothing that can be asked is different then. */
+    void refuses(OvenRound bakery, String call, Class<? extends RuntimeException> kind, Call made) {
+        String before = Look.at(bakery);
+        is(call, "throws " + kind.getSimpleName(), made);
+        is("the bakery behind " + call, before, () -> Look.at(bakery));
+    }
+
+    static Object answerOf(Call made) {
+        try {
+            return made.answer();
+        } catch (RuntimeException e) {
+            return "throws " + e.getClass().getSimpleName();
+        }
+    }
+
+    void end() {
+        System.out.println(wrong + " of " + asked + " answers are wrong");
+        if (wrong > 0 || asked == 0) {
+            System.exit(1);
+        }
+    }
+
+    /** A bakery with one recipe (of flour 0 alone, one part) and 1000 grams of that flour. */
+    static OvenRound withRecipe(int piece, int low, int high, int heat) {
+        OvenRound bakery = new OvenRound();
+        bakery.addRecipe(piece, low, high, heat, 0);
+        bakery.setPart(0, 0, 1);
+        bakery.receive(0, 200000);
+        return bakery;
+    }
+
+    static void type(OvenRound bakery, String text) {
+        for (int from = 0; from < text.length(); from += 8) {
+            long bytes = 0;
+            for (int i = from; i < Math.min(text.length(), from + 8); i++) {
+                bytes = bytes << 8 | text.charAt(i);
+            }
+            bakery.type(bytes);
+        }
+    }
+}
