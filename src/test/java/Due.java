@@ -43,7 +43,7 @@ final class Due {
         }
     }
 
-    /** A bakery with one recipe (of flour 0 alone, one part) and 1000 grams of that flour. */
+    /** A bakery with one recipe (of flour 0 alone, one part) and 200000 grams of that flour. */
     static OvenRound withRecipe(int piece, int low, int high, int heat) {
         OvenRound bakery = new OvenRound();
         bakery.addRecipe(piece, low, high, heat, 0);
