@@ -12,7 +12,7 @@ public final class BookTest {
         due.end();
     }
 
-    private static void books(OvenRound b, int... want) {
+    private static void books(Bakery b, int... want) {
         int sum = 0;
         for (int what = 0; what < 7; what++) {
             int asked = what;
@@ -24,7 +24,7 @@ public final class BookTest {
     }
 
     private static void books() {
-        OvenRound b = Due.withRecipe(100, 1, 200, 100);
+        Bakery b = Due.withRecipe(100, 1, 200, 100);
         b.receive(5, 10);
         books(b, 200010, 0, 0, 200010, 0, 0, 0);
         b.mix(0, 1);
@@ -56,14 +56,14 @@ public final class BookTest {
     }
 
     private static void refuses() {
-        OvenRound b = new OvenRound();
+        Bakery b = new Bakery();
         for (int what : new int[] {-1, 7, Integer.MIN_VALUE, Integer.MAX_VALUE}) {
             due.refuses(b, "book " + what, Due.ARGUMENT, () -> b.book(what));
         }
     }
 
-    private static OvenRound baked(int... pieces) {
-        OvenRound b = Due.withRecipe(100, 1, 200, 100);
+    private static Bakery baked(int... pieces) {
+        Bakery b = Due.withRecipe(100, 1, 200, 100);
         b.setHeat(100);
         b.pass(20);
         for (int number : pieces) {
@@ -77,8 +77,8 @@ public final class BookTest {
     }
 
     private static void meanAge() {
-        due.is("without breads", 0.0, () -> new OvenRound().meanAge());
-        OvenRound b = baked(1, 2, 4);
+        due.is("without breads", 0.0, () -> new Bakery().meanAge());
+        Bakery b = baked(1, 2, 4);
         due.is("meanAge", 4.0 / 7.0, () -> b.meanAge());
         b.endDay();
         due.is("meanAge a day later", 11.0 / 7.0, () -> b.meanAge());
@@ -89,8 +89,8 @@ public final class BookTest {
     }
 
     private static void thrownShare() {
-        due.is("nothing came in", 0.0f, () -> new OvenRound().thrownShare());
-        OvenRound b = Due.withRecipe(100, 1, 200, 100);
+        due.is("nothing came in", 0.0f, () -> new Bakery().thrownShare());
+        Bakery b = Due.withRecipe(100, 1, 200, 100);
         due.is("nothing thrown", 0.0f, () -> b.thrownShare());
         b.receive(1, 7);
         b.mix(0, 3);
@@ -104,8 +104,8 @@ public final class BookTest {
             c *= 31;
         }
         long empty = c;
-        due.is("checksum of a new bakery", empty, () -> new OvenRound().checksum());
-        OvenRound b = baked(2, 3);
+        due.is("checksum of a new bakery", empty, () -> new Bakery().checksum());
+        Bakery b = baked(2, 3);
         b.addRecipe(50, 1, 1, 100, 0);
         b.receive(6, 9);
         b.mix(0, 1);
@@ -121,7 +121,7 @@ public final class BookTest {
     }
 
     private static void errors() {
-        OvenRound b = baked(1, 2, 3);
+        Bakery b = baked(1, 2, 3);
         due.is("errors", 0, () -> b.errors());
         b.setDecks(1);
         b.addRecipe(50, 1, 20, 100, 0);

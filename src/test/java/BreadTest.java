@@ -13,8 +13,8 @@ public final class BreadTest {
     }
 
     /** Bakes as many pieces of the recipe 0 (50 grams each) as told, a day apart, the first ones oldest. */
-    private static OvenRound baked(int... pieces) {
-        OvenRound b = Due.withRecipe(50, 1, 200, 100);
+    private static Bakery baked(int... pieces) {
+        Bakery b = Due.withRecipe(50, 1, 200, 100);
         b.addRecipe(70, 1, 200, 100, 0);
         b.setPart(1, 0, 1);
         b.setHeat(100);
@@ -33,7 +33,7 @@ public final class BreadTest {
         return b;
     }
 
-    private static void ages(OvenRound b, String what, int... want) {
+    private static void ages(Bakery b, String what, int... want) {
         for (int age = 0; age < 4; age++) {
             int asked = age;
             due.is(what + ": breads(0, " + age + ")", want[age], () -> b.breads(0, asked));
@@ -41,7 +41,7 @@ public final class BreadTest {
     }
 
     private static void growsOlder() {
-        OvenRound b = baked(1, 2, 3, 4);
+        Bakery b = baked(1, 2, 3, 4);
         ages(b, "four days", 4, 3, 2, 1);
         due.is("endDay", 1, () -> b.endDay());
         ages(b, "five days", 0, 4, 3, 2);
@@ -66,7 +66,7 @@ public final class BreadTest {
     }
 
     private static void sells() {
-        OvenRound b = baked(1, 2, 3, 4);
+        Bakery b = baked(1, 2, 3, 4);
         due.is("sell(0, 2)", 3, () -> b.sell(0, 2));
         ages(b, "sold 2", 4, 3, 1, 0);
         due.is("sell(0, 1)", 2, () -> b.sell(0, 1));
@@ -75,13 +75,13 @@ public final class BreadTest {
         due.is("sell(0, 2)", 0, () -> b.sell(0, 2));
         ages(b, "sold all", 0, 0, 0, 0);
         due.is("book(1)", 500, () -> b.book(1));
-        OvenRound many = baked(40, 40, 30);
+        Bakery many = baked(40, 40, 30);
         due.is("sell(0, 99)", 2, () -> many.sell(0, 99));
         ages(many, "sold 99", 11, 0, 0, 0);
     }
 
     private static void refusesToSell() {
-        OvenRound b = baked(2, 3);
+        Bakery b = baked(2, 3);
         due.refuses(b, "sell 6 of 5", Due.STATE, () -> b.sell(0, 6));
         due.refuses(b, "sell of another recipe", Due.STATE, () -> b.sell(1, 1));
         due.refuses(b, "sell(2, 0)", Due.INDEX, () -> b.sell(2, 0));
@@ -93,7 +93,7 @@ public final class BreadTest {
     }
 
     private static void crumbles() {
-        OvenRound b = baked(1, 2, 3, 4);
+        Bakery b = baked(1, 2, 3, 4);
         due.is("crumble(0)", 300, () -> b.crumble(0));
         ages(b, "crumbled", 4, 0, 0, 0);
         due.is("store(7)", 300, () -> b.store(7));
@@ -108,7 +108,7 @@ public final class BreadTest {
     }
 
     private static void crumblesAboveTheMost() {
-        OvenRound b = new OvenRound();
+        Bakery b = new Bakery();
         b.addRecipe(2000, 1, 200, 100, 0);
         b.setPart(0, 0, 1);
         b.setHeat(100);
@@ -133,7 +133,7 @@ public final class BreadTest {
     }
 
     private static void refusesBreads() {
-        OvenRound b = baked(1);
+        Bakery b = baked(1);
         due.refuses(b, "breads(2, 4)", Due.INDEX, () -> b.breads(2, 4));
         due.refuses(b, "breads(-1, 0)", Due.INDEX, () -> b.breads(-1, 0));
         due.refuses(b, "breads(0, 4)", Due.ARGUMENT, () -> b.breads(0, 4));

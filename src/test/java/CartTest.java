@@ -16,8 +16,8 @@ public final class CartTest {
         due.end();
     }
 
-    private static OvenRound with(int[]... shops) {
-        OvenRound b = new OvenRound();
+    private static Bakery with(int[]... shops) {
+        Bakery b = new Bakery();
         for (int[] s : shops) {
             b.addShop(s[0], s[1], s[2], s[3], s[4]);
         }
@@ -25,7 +25,7 @@ public final class CartTest {
     }
 
     private static void addsShops() {
-        OvenRound b = new OvenRound();
+        Bakery b = new Bakery();
         due.is("least shop", 0, () -> b.addShop(0, 0, 0, 0, 0));
         due.is("greatest shop", 1, () -> b.addShop(20, 20, 600, 600, 30));
         for (int i = 2; i < 7; i++) {
@@ -37,7 +37,7 @@ public final class CartTest {
     }
 
     private static void refusesShops() {
-        OvenRound b = new OvenRound();
+        Bakery b = new Bakery();
         int[][] wrong = {{-1, 2, 3, 9, 5}, {21, 2, 3, 9, 5}, {1, -1, 3, 9, 5}, {1, 21, 3, 9, 5}, {1, 2, -1, 9, 5},
             {1, 2, 601, 601, 5}, {1, 2, 3, 2, 5}, {1, 2, 3, 601, 5}, {1, 2, 3, 9, -1}, {1, 2, 3, 9, 31}};
         for (int[] w : wrong) {
@@ -47,7 +47,7 @@ public final class CartTest {
     }
 
     private static void meetsHours() {
-        OvenRound b = with(new int[] {3, 4, 20, 25, 6});
+        Bakery b = with(new int[] {3, 4, 20, 25, 6});
         due.is("waits for the opening", 33, () -> b.comesBack(0));
         due.is("comes just at the opening", 33, () -> b.comesBack(13));
         due.is("comes behind the opening", 34, () -> b.comesBack(14));
@@ -59,7 +59,7 @@ public final class CartTest {
     }
 
     private static void prefersLowerNumbers() {
-        OvenRound all = with(new int[] {5, 0, 0, 600, 1}, new int[] {3, 0, 0, 600, 1}, new int[] {4, 0, 0, 600, 1});
+        Bakery all = with(new int[] {5, 0, 0, 600, 1}, new int[] {3, 0, 0, 600, 1}, new int[] {4, 0, 0, 600, 1});
         due.is("comesBack(0)", 13, () -> all.comesBack(0));
         int[] way = {0, 1, 2};
         due.is("the way 0, 1, 2 is longer", 15, () -> all.wayBack(0, 12));
@@ -71,7 +71,7 @@ public final class CartTest {
     }
 
     private static void findsBest() {
-        OvenRound b = with(new int[] {10, 0, 0, 600, 0}, new int[] {0, 10, 0, 12, 0}, new int[] {0, 5, 40, 45, 3});
+        Bakery b = with(new int[] {10, 0, 0, 600, 0}, new int[] {0, 10, 0, 12, 0}, new int[] {0, 5, 40, 45, 3});
         due.is("comesBack(0)", 53, () -> b.comesBack(0));
         int[] want = {1, 0, 2};
         for (int i = 0; i < 3; i++) {
@@ -86,7 +86,7 @@ public final class CartTest {
     }
 
     private static void findsNone() {
-        OvenRound b = with(new int[] {20, 20, 0, 40, 0}, new int[] {0, 20, 0, 40, 0}, new int[] {20, 0, 0, 40, 0});
+        Bakery b = with(new int[] {20, 20, 0, 40, 0}, new int[] {0, 20, 0, 40, 0}, new int[] {20, 0, 0, 40, 0});
         due.refuses(b, "comesBack(0)", Due.ELEMENT, () -> b.comesBack(0));
         due.refuses(b, "shopOf(0, 2)", Due.ELEMENT, () -> b.shopOf(0, 2));
         due.refuses(b, "shopOf(0, 3)", Due.INDEX, () -> b.shopOf(0, 3));
@@ -95,7 +95,7 @@ public final class CartTest {
     }
 
     private static void tellsWays() {
-        OvenRound b = with(new int[] {4, 0, 0, 600, 2}, new int[] {1, 0, 10, 600, 0});
+        Bakery b = with(new int[] {4, 0, 0, 600, 2}, new int[] {1, 0, 10, 600, 0});
         due.is("wayBack(0, 10)", 19, () -> b.wayBack(0, 10));
         due.is("wayBack(0, 1)", 11, () -> b.wayBack(0, 1));
         due.is("wayBack(600, 1)", OvenRound.NONE, () -> b.wayBack(600, 1));
@@ -103,14 +103,14 @@ public final class CartTest {
             Integer.MIN_VALUE, Integer.MAX_VALUE}) {
             due.refuses(b, "wayBack(0, " + way + ")", Due.ARGUMENT, () -> b.wayBack(0, way));
         }
-        OvenRound one = with(new int[] {4, 0, 0, 600, 2});
+        Bakery one = with(new int[] {4, 0, 0, 600, 2});
         due.is("wayBack(0, 0)", 10, () -> one.wayBack(0, 0));
         due.refuses(one, "wayBack(0, 1)", Due.ARGUMENT, () -> one.wayBack(0, 1));
         due.refuses(one, "wayBack(0, 10)", Due.ARGUMENT, () -> one.wayBack(0, 10));
     }
 
     private static void refusesWays() {
-        OvenRound b = with(new int[] {4, 0, 0, 600, 2}, new int[] {1, 0, 10, 600, 0});
+        Bakery b = with(new int[] {4, 0, 0, 600, 2}, new int[] {1, 0, 10, 600, 0});
         for (int begin : new int[] {-1, 601, Integer.MIN_VALUE, Integer.MAX_VALUE}) {
             due.refuses(b, "comesBack " + begin, Due.ARGUMENT, () -> b.comesBack(begin));
             due.refuses(b, "shopOf " + begin, Due.ARGUMENT, () -> b.shopOf(begin, 0));
@@ -122,7 +122,7 @@ public final class CartTest {
     }
 
     private static void withoutShops() {
-        OvenRound b = new OvenRound();
+        Bakery b = new Bakery();
         due.is("comesBack(0)", 0, () -> b.comesBack(0));
         due.is("comesBack(600)", 600, () -> b.comesBack(600));
         due.is("wayBack(600, 0)", 600, () -> b.wayBack(600, 0));
@@ -132,7 +132,7 @@ public final class CartTest {
     }
 
     private static void goesThroughSeven() {
-        OvenRound b = new OvenRound();
+        Bakery b = new Bakery();
         int[] order = {3, 6, 0, 5, 1, 4, 2};
         int[] rank = new int[7];
         for (int i = 0; i < 7; i++) {

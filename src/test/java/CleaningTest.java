@@ -10,15 +10,15 @@ public final class CleaningTest {
         due.end();
     }
 
-    private static OvenRound with(int... allergens) {
-        OvenRound b = new OvenRound();
+    private static Bakery with(int... allergens) {
+        Bakery b = new Bakery();
         for (int set : allergens) {
             b.addRecipe(50, 1, 1, 100, set);
         }
         return b;
     }
 
-    private static void row(OvenRound b, int set, int price, int... recipes) {
+    private static void row(Bakery b, int set, int price, int... recipes) {
         due.is("cleaning " + set, price, () -> b.cleaning(set));
         for (int i = 0; i < recipes.length; i++) {
             int index = i;
@@ -33,7 +33,7 @@ public final class CleaningTest {
         int[] prices = {3, 5, 2, 4};
         for (int one = 0; one < 4; one++) {
             for (int other = 0; other < 4; other++) {
-                OvenRound b = with(1 << one, 1 << other);
+                Bakery b = with(1 << one, 1 << other);
                 int price = one == other ? 0 : Math.min(prices[one], prices[other]);
                 boolean isTurned = one != other && prices[other] < prices[one];
                 row(b, 3, price, isTurned ? 1 : 0, isTurned ? 0 : 1);
@@ -50,7 +50,7 @@ public final class CleaningTest {
     }
 
     private static void findsRows() {
-        OvenRound b = with(5, 8, 3, 0, 15, 1);
+        Bakery b = with(5, 8, 3, 0, 15, 1);
         row(b, 0, 0);
         row(b, 8, 0, 3);
         row(b, 32, 0, 5);
@@ -61,12 +61,12 @@ public final class CleaningTest {
     }
 
     private static void refuses() {
-        OvenRound b = with(5, 8);
+        Bakery b = with(5, 8);
         for (int set : new int[] {-1, 4, 5, 8, 64, Integer.MIN_VALUE, Integer.MAX_VALUE}) {
             due.refuses(b, "cleaning " + set, Due.ARGUMENT, () -> b.cleaning(set));
             due.refuses(b, "rowAt " + set, Due.ARGUMENT, () -> b.rowAt(set, -1));
         }
-        OvenRound none = new OvenRound();
+        Bakery none = new Bakery();
         due.is("cleaning(0)", 0, () -> none.cleaning(0));
         due.refuses(none, "cleaning(1)", Due.ARGUMENT, () -> none.cleaning(1));
         due.refuses(none, "rowAt(0, 0)", Due.INDEX, () -> none.rowAt(0, 0));

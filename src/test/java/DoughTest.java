@@ -17,7 +17,7 @@ public final class DoughTest {
     }
 
     private static void mixes() {
-        OvenRound b = new OvenRound();
+        Bakery b = new Bakery();
         b.addRecipe(90, 5, 9, 110, 2);
         b.setPart(0, 0, 7);
         b.setPart(0, 4, 4);
@@ -41,7 +41,7 @@ public final class DoughTest {
     }
 
     private static void refusesToMix() {
-        OvenRound b = Due.withRecipe(50, 5, 9, 110);
+        Bakery b = Due.withRecipe(50, 5, 9, 110);
         b.addRecipe(50, 5, 9, 110, 0);
         due.refuses(b, "mix(2, 0)", Due.INDEX, () -> b.mix(2, 0));
         due.refuses(b, "mix(-1, 1)", Due.INDEX, () -> b.mix(-1, 1));
@@ -54,7 +54,7 @@ public final class DoughTest {
     }
 
     private static void mixesTwenty() {
-        OvenRound b = Due.withRecipe(50, 5, 9, 110);
+        Bakery b = Due.withRecipe(50, 5, 9, 110);
         for (int i = 0; i < 20; i++) {
             int number = i;
             due.is("mix", number, () -> b.mix(0, 1));
@@ -67,7 +67,7 @@ public final class DoughTest {
 
     private static void risesByWarmth() {
         int[] gains = {0, 1, 2, 4, 6, 3};
-        OvenRound b = Due.withRecipe(50, 200, 200, 110);
+        Bakery b = Due.withRecipe(50, 200, 200, 110);
         b.mix(0, 1);
         int before = 2;
         int points = 0;
@@ -86,7 +86,7 @@ public final class DoughTest {
     }
 
     private static void refusesTime() {
-        OvenRound b = new OvenRound();
+        Bakery b = new Bakery();
         due.is("pass(1)", 1, () -> b.pass(1));
         due.is("pass(200)", 201, () -> b.pass(200));
         for (int ticks : new int[] {0, -1, 201, Integer.MIN_VALUE, Integer.MAX_VALUE}) {
@@ -96,7 +96,7 @@ public final class DoughTest {
     }
 
     private static void reachesTheLastTick() {
-        OvenRound b = Due.withRecipe(50, 1, 200, 110);
+        Bakery b = Due.withRecipe(50, 1, 200, 110);
         b.mix(0, 1);
         b.setWarmth(4);
         for (int i = 0; i < 499; i++) {
@@ -112,7 +112,7 @@ public final class DoughTest {
     }
 
     private static void shapes() {
-        OvenRound b = Due.withRecipe(50, 5, 9, 110);
+        Bakery b = Due.withRecipe(50, 5, 9, 110);
         b.setWarmth(1);
         for (int i = 0; i < 3; i++) {
             b.mix(0, 1);
@@ -133,7 +133,7 @@ public final class DoughTest {
     }
 
     private static void refusesToShape() {
-        OvenRound b = Due.withRecipe(50, 2, 9, 110);
+        Bakery b = Due.withRecipe(50, 2, 9, 110);
         b.mix(0, 1);
         b.mix(0, 1);
         b.pass(1);
@@ -146,7 +146,7 @@ public final class DoughTest {
     }
 
     private static void tells() {
-        OvenRound b = Due.withRecipe(50, 2, 9, 110);
+        Bakery b = Due.withRecipe(50, 2, 9, 110);
         b.addRecipe(70, 2, 9, 110, 0);
         b.setPart(1, 0, 3);
         b.mix(0, 1);
@@ -164,7 +164,7 @@ public final class DoughTest {
     }
 
     private static void throwsAway() {
-        OvenRound b = Due.withRecipe(50, 2, 9, 20 + 80);
+        Bakery b = Due.withRecipe(50, 2, 9, 20 + 80);
         b.mix(0, 1);
         b.mix(0, 2);
         b.mix(0, 3);

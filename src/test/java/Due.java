@@ -22,17 +22,27 @@ final class Due {
     }
 
     /** The call throws just this class, and nothing that can be asked is different then. */
-    void refuses(OvenRound bakery, String call, Class<? extends RuntimeException> kind, Call made) {
-        String before = Look.at(bakery);
-        is(call, "throws " + kind.getSimpleName(), made);
-        is("the bakery behind " + call, before, () -> Look.at(bakery));
+    void refuses(Bakery bakery, String call, Class<? extends RuntimeException> kind, Call made) {
+        // One call is made between the two looks, and both must ask the same.
+        int questions = bakery.left() - 1;
+        String before = Look.at(bakery, questions);
+        is(call, thrown(kind), made);
+        is("the bakery behind " + call, before, () -> Look.at(bakery, questions));
+    }
+
+    Edge edge(String call, Edge.Making making, Edge.Asked number) {
+        return new Edge(this, call, making, number);
+    }
+
+    static String thrown(Class<? extends RuntimeException> kind) {
+        return "throws " + kind.getSimpleName();
     }
 
     static Object answerOf(Call made) {
         try {
             return made.answer();
         } catch (RuntimeException e) {
-            return "throws " + e.getClass().getSimpleName();
+            return thrown(e.getClass());
         }
     }
 
@@ -44,15 +54,15 @@ final class Due {
     }
 
     /** A bakery with one recipe (of flour 0 alone, one part) and 200000 grams of that flour. */
-    static OvenRound withRecipe(int piece, int low, int high, int heat) {
-        OvenRound bakery = new OvenRound();
+    static Bakery withRecipe(int piece, int low, int high, int heat) {
+        Bakery bakery = new Bakery();
         bakery.addRecipe(piece, low, high, heat, 0);
         bakery.setPart(0, 0, 1);
         bakery.receive(0, 200000);
         return bakery;
     }
 
-    static void type(OvenRound bakery, String text) {
+    static void type(Bakery bakery, String text) {
         for (int from = 0; from < text.length(); from += 8) {
             long bytes = 0;
             for (int i = from; i < Math.min(text.length(), from + 8); i++) {

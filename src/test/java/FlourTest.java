@@ -14,8 +14,8 @@ public final class FlourTest {
         due.end();
     }
 
-    private static OvenRound with(int[]... flours) {
-        OvenRound b = new OvenRound();
+    private static Bakery with(int[]... flours) {
+        Bakery b = new Bakery();
         for (int i = 0; i < 4; i++) {
             b.setFlour(i, flours[i][0], flours[i][1], flours[i][2]);
         }
@@ -26,7 +26,7 @@ public final class FlourTest {
         return Due.answerOf(top) + "/" + Due.answerOf(bottom);
     }
 
-    private static void is(OvenRound b, int low, int high, String... want) {
+    private static void is(Bakery b, int low, int high, String... want) {
         String bounds = "(" + low + ", " + high + ")";
         due.is("mixCost" + bounds, want[0],
                 () -> fraction(() -> b.mixCost(low, high, false), () -> b.mixCost(low, high, true)));
@@ -37,13 +37,13 @@ public final class FlourTest {
         }
     }
 
-    private static void none(OvenRound b, int low, int high) {
+    private static void none(Bakery b, int low, int high) {
         due.refuses(b, "mixCost " + low + " " + high, Due.ELEMENT, () -> b.mixCost(low, high, false));
         due.refuses(b, "mixShare " + low + " " + high, Due.ELEMENT, () -> b.mixShare(low, high, 3, true));
     }
 
     private static void sets() {
-        OvenRound b = new OvenRound();
+        Bakery b = new Bakery();
         due.is("setFlour(0, 200, 999, 100)", 50, () -> b.setFlour(0, 200, 999, 100));
         due.is("setFlour(0, 0, 0, 0)", 999, () -> b.setFlour(0, 0, 0, 0));
         due.is("setFlour(3, 1, 1, 1)", 50, () -> b.setFlour(3, 1, 1, 1));
@@ -52,7 +52,7 @@ public final class FlourTest {
     }
 
     private static void refusesFlours() {
-        OvenRound b = new OvenRound();
+        Bakery b = new Bakery();
         due.refuses(b, "flour 4", Due.INDEX, () -> b.setFlour(4, 201, 0, 0));
         due.refuses(b, "flour -1", Due.INDEX, () -> b.setFlour(-1, 0, 0, 0));
         int[][] wrong = {{-1, 0, 0}, {201, 0, 0}, {0, -1, 0}, {0, 1000, 0}, {0, 0, -1}, {0, 0, 101}};
@@ -63,7 +63,7 @@ public final class FlourTest {
     }
 
     private static void mixesAtFirst() {
-        OvenRound b = new OvenRound();
+        Bakery b = new Bakery();
         is(b, 0, 200, "50/1", "0/1", "0/1", "0/1", "1/1");
         is(b, 100, 100, "50/1", "0/1", "0/1", "0/1", "1/1");
         none(b, 0, 99);
@@ -71,14 +71,14 @@ public final class FlourTest {
     }
 
     private static void mixesByCost() {
-        OvenRound b = with(new int[] {150, 30, 60}, new int[] {90, 10, 70}, new int[] {100, 999, 100},
+        Bakery b = with(new int[] {150, 30, 60}, new int[] {90, 10, 70}, new int[] {100, 999, 100},
                 new int[] {100, 999, 100});
         is(b, 110, 120, "50/3", "1/3", "2/3", "0/1", "0/1");
         is(b, 0, 200, "16/1", "3/10", "7/10", "0/1", "0/1");
     }
 
     private static void mixesByShares() {
-        OvenRound b = with(new int[] {150, 10, 100}, new int[] {50, 10, 100}, new int[] {150, 10, 100},
+        Bakery b = with(new int[] {150, 10, 100}, new int[] {50, 10, 100}, new int[] {150, 10, 100},
                 new int[] {50, 10, 100});
         is(b, 100, 100, "10/1", "0/1", "0/1", "1/2", "1/2");
         is(b, 50, 150, "10/1", "0/1", "0/1", "0/1", "1/1");
@@ -89,7 +89,7 @@ public final class FlourTest {
     }
 
     private static void mixesWithinCaps() {
-        OvenRound b = with(new int[] {100, 1, 10}, new int[] {100, 2, 20}, new int[] {100, 3, 30},
+        Bakery b = with(new int[] {100, 1, 10}, new int[] {100, 2, 20}, new int[] {100, 3, 30},
                 new int[] {100, 4, 40});
         is(b, 0, 200, "3/1", "1/10", "1/5", "3/10", "2/5");
         b.setFlour(3, 100, 4, 39);
@@ -101,7 +101,7 @@ public final class FlourTest {
     }
 
     private static void mixesAtEdges() {
-        OvenRound b = with(new int[] {0, 999, 100}, new int[] {199, 998, 100}, new int[] {200, 997, 0},
+        Bakery b = with(new int[] {0, 999, 100}, new int[] {199, 998, 100}, new int[] {200, 997, 0},
                 new int[] {100, 0, 0});
         is(b, 0, 0, "999/1", "1/1", "0/1", "0/1", "0/1");
         is(b, 199, 199, "998/1", "0/1", "1/1", "0/1", "0/1");
@@ -111,7 +111,7 @@ public final class FlourTest {
     }
 
     private static void refusesMixes() {
-        OvenRound b = new OvenRound();
+        Bakery b = new Bakery();
         due.refuses(b, "mixCost(-1, 5)", Due.ARGUMENT, () -> b.mixCost(-1, 5, false));
         due.refuses(b, "mixCost(201, 201)", Due.ARGUMENT, () -> b.mixCost(201, 201, false));
         due.refuses(b, "mixCost(5, 4)", Due.ARGUMENT, () -> b.mixCost(5, 4, false));

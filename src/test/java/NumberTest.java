@@ -11,7 +11,7 @@ public final class NumberTest {
     }
 
     private static void notes() {
-        OvenRound b = Due.withRecipe(50, 1, 9, 100);
+        Bakery b = Due.withRecipe(50, 1, 9, 100);
         b.addRecipe(50, 1, 9, 100, 0);
         due.is("note(0, 0)", 1, () -> b.note(0, 0));
         due.is("note(0, 99)", 2, () -> b.note(0, 99));
@@ -27,7 +27,7 @@ public final class NumberTest {
     }
 
     private static void findsBest() {
-        OvenRound b = Due.withRecipe(50, 1, 9, 100);
+        Bakery b = Due.withRecipe(50, 1, 9, 100);
         for (int wanted : new int[] {30, 10, 20, 40}) {
             b.note(0, wanted);
         }
@@ -44,7 +44,7 @@ public final class NumberTest {
     }
 
     private static void tellsLoss() {
-        OvenRound b = Due.withRecipe(50, 1, 9, 100);
+        Bakery b = Due.withRecipe(50, 1, 9, 100);
         b.addRecipe(50, 1, 9, 100, 0);
         due.is("loss without notes", 0, () -> b.loss(0, 99, 99, 99));
         b.note(0, 10);
@@ -57,7 +57,7 @@ public final class NumberTest {
     }
 
     private static void refuses() {
-        OvenRound b = Due.withRecipe(50, 1, 9, 100);
+        Bakery b = Due.withRecipe(50, 1, 9, 100);
         due.refuses(b, "note(1, 100)", Due.INDEX, () -> b.note(1, 100));
         due.refuses(b, "note(-1, 1)", Due.INDEX, () -> b.note(-1, 1));
         due.refuses(b, "note(0, -1)", Due.ARGUMENT, () -> b.note(0, -1));

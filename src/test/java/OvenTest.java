@@ -16,7 +16,7 @@ public final class OvenTest {
     }
 
     private static void heats() {
-        OvenRound b = new OvenRound();
+        Bakery b = new Bakery();
         due.is("setHeat(32)", 20, () -> b.setHeat(32));
         due.is("heat ahead of any tick", 20, () -> b.heat());
         int[] want = {25, 30, 32, 32};
@@ -40,7 +40,7 @@ public final class OvenTest {
     }
 
     private static void setsDecks() {
-        OvenRound b = new OvenRound();
+        Bakery b = new Bakery();
         due.is("setDecks(1)", 2, () -> b.setDecks(1));
         due.is("setDecks(4)", 1, () -> b.setDecks(4));
         due.is("setDecks(3)", 4, () -> b.setDecks(3));
@@ -50,8 +50,8 @@ public final class OvenTest {
     }
 
     /** An oven of 120 at the tick 20, and a cold warmth, so that points stay. */
-    private static OvenRound hot(int recipeHeat, int doughs) {
-        OvenRound b = Due.withRecipe(50, 1, 200, recipeHeat);
+    private static Bakery hot(int recipeHeat, int doughs) {
+        Bakery b = Due.withRecipe(50, 1, 200, recipeHeat);
         b.setHeat(120);
         b.pass(19);
         for (int i = 0; i < doughs; i++) {
@@ -63,7 +63,7 @@ public final class OvenTest {
     }
 
     private static void bakesAtRounds() {
-        OvenRound b = hot(120, 3);
+        Bakery b = hot(120, 3);
         due.is("bake at 20", 30, () -> b.bake(0));
         due.is("state", OvenRound.BAKING, () -> b.doughAt(0, 3));
         due.is("went in at", 20, () -> b.doughAt(0, 6));
@@ -78,12 +78,12 @@ public final class OvenTest {
 
     private static void bakesWithinHeat() {
         for (int least = 119; least <= 121; least++) {
-            OvenRound b = hot(least, 1);
+            Bakery b = hot(least, 1);
             due.is("oven 120, recipe " + least, least <= 120 ? 30 : "throws IllegalStateException",
                     () -> b.bake(0));
         }
         for (int more = 39; more <= 41; more++) {
-            OvenRound b = Due.withRecipe(50, 1, 200, 100);
+            Bakery b = Due.withRecipe(50, 1, 200, 100);
             b.setHeat(100 + more);
             b.mix(0, 1);
             b.pass(30);
@@ -93,14 +93,14 @@ public final class OvenTest {
 
     private static void bakesWithinWait() {
         for (int wait = 9; wait <= 11; wait++) {
-            OvenRound b = hot(120, 1);
+            Bakery b = hot(120, 1);
             b.setWait(0, wait);
             b.shape(0);
             b.pass(10);
             due.is("10 ticks with the wait " + wait, wait >= 10 ? 40 : "throws IllegalStateException",
                     () -> b.bake(0));
         }
-        OvenRound now = hot(120, 1);
+        Bakery now = hot(120, 1);
         now.setWait(0, 0);
         now.shape(0);
         due.is("bake at once with the wait 0", 30, () -> now.bake(0));
@@ -109,7 +109,7 @@ public final class OvenTest {
 
     private static void bakesWithinPoints() {
         for (int warm = 0; warm <= 7; warm++) {
-            OvenRound b = Due.withRecipe(50, 2, 5, 120);
+            Bakery b = Due.withRecipe(50, 2, 5, 120);
             b.setHeat(120);
             b.setWarmth(1);
             b.pass(30 - warm);
@@ -124,7 +124,7 @@ public final class OvenTest {
 
     private static void bakesOnDecks() {
         for (int decks = 1; decks <= 4; decks++) {
-            OvenRound b = hot(120, 6);
+            Bakery b = hot(120, 6);
             b.setDecks(decks);
             b.shape(0);
             for (int dough = 0; dough < decks; dough++) {
@@ -135,7 +135,7 @@ public final class OvenTest {
             b.pass(10);
             due.is("bake in the next round", 40, () -> b.bake(5));
         }
-        OvenRound b = hot(120, 4);
+        Bakery b = hot(120, 4);
         b.bake(3);
         b.setDecks(1);
         due.refuses(b, "the one deck has a dough", Due.STATE, () -> b.bake(0));
@@ -144,7 +144,7 @@ public final class OvenTest {
     }
 
     private static void takesOut() {
-        OvenRound b = hot(120, 3);
+        Bakery b = hot(120, 3);
         b.bake(1);
         b.bake(2);
         b.setWarmth(2);
@@ -163,7 +163,7 @@ public final class OvenTest {
     }
 
     private static void refuses() {
-        OvenRound b = hot(120, 3);
+        Bakery b = hot(120, 3);
         due.refuses(b, "bake(3)", Due.INDEX, () -> b.bake(3));
         due.refuses(b, "bake(-1)", Due.INDEX, () -> b.bake(-1));
         b.throwAway(2);

@@ -14,7 +14,7 @@ public final class PlanTest {
         due.end();
     }
 
-    private static void is(OvenRound b, String what, int inPlan, int late, int... rounds) {
+    private static void is(Bakery b, String what, int inPlan, int late, int... rounds) {
         due.is(what + ": inPlan", inPlan, () -> b.inPlan());
         due.is(what + ": late", late, () -> b.late());
         for (int i = 0; i < rounds.length; i++) {
@@ -23,8 +23,8 @@ public final class PlanTest {
         }
     }
 
-    private static OvenRound rising(int low, int high) {
-        OvenRound b = Due.withRecipe(50, low, high, 100);
+    private static Bakery rising(int low, int high) {
+        Bakery b = Due.withRecipe(50, low, high, 100);
         b.mix(0, 1);
         return b;
     }
@@ -39,15 +39,15 @@ public final class PlanTest {
         is(rising(21, 40), "the tick 11 to 20", 1, 0, 20);
         is(rising(21, 41), "the tick 11 to 20", 1, 0, 20);
         is(rising(200, 200), "the tick 100", 1, 0, 100);
-        OvenRound slow = rising(200, 200);
+        Bakery slow = rising(200, 200);
         slow.setWarmth(1);
         is(slow, "the tick 200", 1, 0, 200);
         slow.pass(5);
         is(slow, "the tick 200 from the tick 5 on", 1, 0, 200);
-        OvenRound b = rising(1, 9);
+        Bakery b = rising(1, 9);
         b.pass(5);
         is(b, "points above the high bound", 0, 0, -1);
-        OvenRound ripe = rising(1, 40);
+        Bakery ripe = rising(1, 40);
         ripe.pass(10);
         is(ripe, "the present tick counts", 1, 0, 10);
         ripe.pass(1);
@@ -59,7 +59,7 @@ public final class PlanTest {
     }
 
     private static void plansByWait() {
-        OvenRound b = rising(1, 200);
+        Bakery b = rising(1, 200);
         b.pass(5);
         b.shape(0);
         b.setWait(0, 4);
@@ -75,7 +75,7 @@ public final class PlanTest {
     }
 
     private static void plansWithoutPoints() {
-        OvenRound b = rising(2, 9);
+        Bakery b = rising(2, 9);
         b.setWarmth(0);
         is(b, "0 points", 0, 0, -1);
         b.setWarmth(1);
@@ -89,7 +89,7 @@ public final class PlanTest {
     }
 
     private static void plansManyWithoutEnd() {
-        OvenRound b = Due.withRecipe(50, 1, 200, 100);
+        Bakery b = Due.withRecipe(50, 1, 200, 100);
         for (int i = 0; i < 20; i++) {
             b.mix(0, 1);
         }
@@ -109,7 +109,7 @@ public final class PlanTest {
     }
 
     private static void prefersLeastLast() {
-        OvenRound b = Due.withRecipe(50, 1, 100, 100);
+        Bakery b = Due.withRecipe(50, 1, 100, 100);
         b.addRecipe(50, 1, 30, 100, 0);
         b.setPart(1, 0, 1);
         b.addRecipe(50, 21, 60, 100, 0);
@@ -125,7 +125,7 @@ public final class PlanTest {
     }
 
     private static void looksAtStatesAlone() {
-        OvenRound b = Due.withRecipe(50, 1, 200, 100);
+        Bakery b = Due.withRecipe(50, 1, 200, 100);
         for (int i = 0; i < 4; i++) {
             b.mix(0, 1);
         }
@@ -140,7 +140,7 @@ public final class PlanTest {
     }
 
     private static void plansBehindTheLastTick() {
-        OvenRound b = Due.withRecipe(50, 1, 200, 100);
+        Bakery b = Due.withRecipe(50, 1, 200, 100);
         for (int i = 0; i < 500; i++) {
             b.pass(200);
         }
@@ -149,7 +149,7 @@ public final class PlanTest {
     }
 
     private static void refuses() {
-        OvenRound b = rising(1, 9);
+        Bakery b = rising(1, 9);
         due.refuses(b, "planned(1)", Due.INDEX, () -> b.planned(1));
         due.refuses(b, "planned(-1)", Due.INDEX, () -> b.planned(-1));
     }

@@ -16,7 +16,7 @@ public final class StoreTest {
     }
 
     private static void newBakery() {
-        OvenRound b = new OvenRound();
+        Bakery b = new Bakery();
         due.is("now", 0, () -> b.now());
         due.is("recipeCount", 0, () -> b.recipeCount());
         due.is("doughCount", 0, () -> b.doughCount());
@@ -41,7 +41,7 @@ public final class StoreTest {
     }
 
     private static void receives() {
-        OvenRound b = new OvenRound();
+        Bakery b = new Bakery();
         due.is("receive(6, 1)", 1, () -> b.receive(6, 1));
         due.is("receive(6, 200000)", 200001, () -> b.receive(6, 200000));
         due.is("store(6)", 200001, () -> b.store(6));
@@ -57,7 +57,7 @@ public final class StoreTest {
     }
 
     private static void refusesGoods() {
-        OvenRound b = new OvenRound();
+        Bakery b = new Bakery();
         for (int good : new int[] {-1, 8, Integer.MIN_VALUE, Integer.MAX_VALUE}) {
             due.refuses(b, "receive " + good, Due.INDEX, () -> b.receive(good, 0));
             due.refuses(b, "store " + good, Due.INDEX, () -> b.store(good));
@@ -74,7 +74,7 @@ public final class StoreTest {
     }
 
     private static void addsRecipes() {
-        OvenRound b = new OvenRound();
+        Bakery b = new Bakery();
         due.is("least recipe", 0, () -> b.addRecipe(50, 1, 1, 100, 0));
         due.is("greatest recipe", 1, () -> b.addRecipe(2000, 200, 200, 300, 15));
         for (int i = 2; i < 6; i++) {
@@ -89,7 +89,7 @@ public final class StoreTest {
     }
 
     private static void refusesRecipes() {
-        OvenRound b = new OvenRound();
+        Bakery b = new Bakery();
         int[][] wrong = {{49, 5, 9, 110, 2}, {2001, 5, 9, 110, 2}, {90, 0, 9, 110, 2}, {90, 201, 201, 110, 2},
             {90, 5, 4, 110, 2}, {90, 5, 201, 110, 2}, {90, 5, 9, 99, 2}, {90, 5, 9, 301, 2},
             {90, 5, 9, 110, -1}, {90, 5, 9, 110, 16}, {Integer.MIN_VALUE, 5, 9, 110, 2}};
@@ -101,7 +101,7 @@ public final class StoreTest {
     }
 
     private static void setsWait() {
-        OvenRound b = Due.withRecipe(100, 1, 200, 100);
+        Bakery b = Due.withRecipe(100, 1, 200, 100);
         due.is("setWait(0, 0)", 20, () -> b.setWait(0, 0));
         due.is("setWait(0, 99)", 0, () -> b.setWait(0, 99));
         due.is("setWait(0, 5)", 99, () -> b.setWait(0, 5));
@@ -113,7 +113,7 @@ public final class StoreTest {
     }
 
     private static void setsParts() {
-        OvenRound b = new OvenRound();
+        Bakery b = new Bakery();
         b.addRecipe(90, 5, 9, 110, 0);
         b.addRecipe(90, 5, 9, 110, 0);
         due.is("setPart(0, 7, 9999)", 0, () -> b.setPart(0, 7, 9999));
@@ -129,7 +129,7 @@ public final class StoreTest {
     }
 
     private static void scales() {
-        OvenRound b = new OvenRound();
+        Bakery b = new Bakery();
         b.addRecipe(90, 5, 9, 110, 0);
         due.refuses(b, "amount without parts", Due.STATE, () -> b.amount(0, 90, 0));
         due.refuses(b, "amount grams 0", Due.ARGUMENT, () -> b.amount(0, 0, 0));
@@ -152,7 +152,7 @@ public final class StoreTest {
     }
 
     private static void scalesBigNumbers() {
-        OvenRound b = new OvenRound();
+        Bakery b = new Bakery();
         b.addRecipe(90, 5, 9, 110, 0);
         for (int good = 0; good < 8; good++) {
             b.setPart(0, good, 9999);

@@ -13,7 +13,7 @@ public final class TextTest {
     }
 
     private static void types() {
-        OvenRound b = new OvenRound();
+        Bakery b = new Bakery();
         due.is("type(0)", 0, () -> b.type(0));
         due.is("type \"0:\" with zeros between", 2, () -> b.type(0x30_00_00_3a_00_00_00_00L));
         due.is("type \"5\"", 3, () -> b.type(0x35L));
@@ -25,7 +25,7 @@ public final class TextTest {
     }
 
     private static void refusesBytes() {
-        OvenRound b = new OvenRound();
+        Bakery b = new Bakery();
         b.type(0x30L);
         for (int place = 0; place < 8; place++) {
             for (long wrong : new long[] {1, 31, 127, 128, 160, 255}) {
@@ -38,7 +38,7 @@ public final class TextTest {
     }
 
     private static void refusesLength() {
-        OvenRound b = new OvenRound();
+        Bakery b = new Bakery();
         Due.type(b, " ".repeat(73));
         due.refuses(b, "81 bytes", Due.STATE, () -> b.type(0x2020202020202020L));
         due.refuses(b, "81 bytes, one wrong", Due.ARGUMENT, () -> b.type(0x2020202020202001L));
@@ -52,7 +52,7 @@ public final class TextTest {
     }
 
     private static void fault(String text, int want) {
-        OvenRound b = new OvenRound();
+        Bakery b = new Bakery();
         Due.type(b, text);
         due.is("fault of \"" + text + "\"", want, () -> b.fault());
     }
@@ -79,7 +79,7 @@ public final class TextTest {
     }
 
     private static void readsParts() {
-        OvenRound b = new OvenRound();
+        Bakery b = new Bakery();
         b.addRecipe(50, 1, 1, 100, 0);
         b.addRecipe(50, 1, 1, 100, 0);
         b.setPart(0, 1, 77);
@@ -99,7 +99,7 @@ public final class TextTest {
     }
 
     private static void emptiesTheText() {
-        OvenRound b = new OvenRound();
+        Bakery b = new Bakery();
         b.addRecipe(50, 1, 1, 100, 0);
         b.setPart(0, 1, 77);
         int acts = b.actCount();
