@@ -1,7 +1,15 @@
+import java.lang.reflect.Method;
+import java.util.Arrays;
+import java.util.Comparator;
+
 /** Compares answers with those that are due, prints the wrong ones and ends the program by them. */
 final class Due {
     interface Call {
         Object answer();
+    }
+
+    interface Question {
+        Object of(Bakery bakery);
     }
 
     static final Class<? extends RuntimeException> INDEX = IndexOutOfBoundsException.class;
@@ -30,6 +38,14 @@ final class Due {
         is("the bakery behind " + call, before, () -> Look.at(bakery, questions));
     }
 
+    void refuses(Class<? extends RuntimeException> kind, String call, Bakery bakery, Question question) {
+        refuses(bakery, call, kind, () -> question.of(bakery));
+    }
+
+    void is(String call, Object want, Bakery bakery, Question question) {
+        is(call, want, () -> question.of(bakery));
+    }
+
     Edge edge(String call, Edge.Making making, Edge.Asked number) {
         return new Edge(this, call, making, number);
     }
@@ -43,6 +59,27 @@ final class Due {
             return made.answer();
         } catch (RuntimeException e) {
             return thrown(e.getClass());
+        }
+    }
+
+    /** Runs each test of a class, so that none is forgotten: each method without a parameter, by its name. */
+    void runAll(Class<?> tests) {
+        Method[] methods = tests.getDeclaredMethods();
+        Arrays.sort(methods, Comparator.comparing(Method::getName));
+        for (Method method : methods) {
+            if (method.getParameterCount() == 0 && method.getReturnType() == void.class) {
+                run(method);
+            }
+        }
+        end();
+    }
+
+    private static void run(Method test) {
+        try {
+            test.setAccessible(true);
+            test.invoke(null);
+        } catch (ReflectiveOperationException e) {
+            throw new AssertionError(test.getName() + " did not come to its end", e);
         }
     }
 
