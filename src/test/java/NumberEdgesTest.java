@@ -100,6 +100,8 @@ public final class NumberEdgesTest {
     /** Terms 8: "The best number is the least one from 0 to 99": both ends. */
     private static void findsTheLeastAndTheGreatestNumber() {
         due.is("all wanted 0", 0, withEqualNotes(60, 0), b -> b.bestNumber(0, 0, 99));
+        due.is("all wanted 1", 1, withEqualNotes(60, 1), b -> b.bestNumber(0, 99, 1));
+        due.is("one wanted 1", 1, withEqualNotes(1, 1), b -> b.bestNumber(0, 1, 1));
         due.is("all wanted 99", 99, withEqualNotes(60, 99), b -> b.bestNumber(0, 99, 1));
         due.is("all wanted 99, nothing for under", 0, withEqualNotes(60, 99), b -> b.bestNumber(0, 99, 0));
         due.is("all wanted 98", 98, withEqualNotes(60, 98), b -> b.bestNumber(0, 0, 1));

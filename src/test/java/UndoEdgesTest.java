@@ -27,6 +27,8 @@ public final class UndoEdgesTest {
         b.pass(1);
         b.setWarmth(0);
         bakeOne(b, 5);
+        // Sold, so that undo has to bring back a book that was not 0.
+        b.sell(0, 1);
         b.endDay();
         b.endDay();
         bakeOne(b, 6);
@@ -272,6 +274,97 @@ public final class UndoEdgesTest {
         due.is("a tick later", 21, () -> b.pass(1));
         due.is("heat a tick later", 105, () -> b.heat());
         due.is("points a tick later", 8, () -> b.doughAt(0, 2));
+    }
+
+    /** Terms 12: "all .. as it was before", the strength, the cost and the cap of each flour. */
+    private static void undoesEachNumberOfAFlour() {
+        int[][] changes = {{0, 0, 30}, {100, 99, 30}, {100, 0, 100}};
+        for (int flour = 0; flour <= 3; flour++) {
+            int asked = flour;
+            for (int[] change : changes) {
+                Bakery b = new Bakery();
+                b.setFlour(flour, 100, 0, 30);
+                due.is("cost before", 0, () -> b.setFlour(asked, change[0], change[1], change[2]));
+                due.is("another share", false, () -> b.mixShare(100, 100, asked, false) == 3);
+                due.is("undo of setFlour", 1, () -> b.undo());
+                due.is("top of the share", 3, () -> b.mixShare(100, 100, asked, false));
+                due.is("bottom of the share", 10, () -> b.mixShare(100, 100, asked, true));
+                due.is("cost of the mix", 35, () -> b.mixCost(100, 100, false));
+            }
+        }
+    }
+
+    /** Terms 12: "all .. as it was before", the wait and the parts of each recipe, the last one of a full house too. */
+    private static void undoesWaitsAndPartsOfSixRecipes() {
+        Bakery b = Made.withRecipes(6);
+        for (int at = 0; at < 48; at++) {
+            b.setPart(at / 8, at % 8, 100 + at);
+        }
+        for (int recipe = 0; recipe < 6; recipe++) {
+            b.setWait(recipe, 10 + recipe);
+        }
+        for (int recipe = 0; recipe < 6; recipe++) {
+            int asked = recipe;
+            due.is("wait before", 10 + recipe, () -> b.setWait(asked, 99));
+            b.undo();
+            due.is("wait behind undo of " + recipe, 10 + recipe, () -> b.setWait(asked, 10 + asked));
+        }
+        for (int at = 0; at < 48; at++) {
+            int asked = at;
+            due.is("parts before", 100 + at, () -> b.setPart(asked / 8, asked % 8, 9999));
+            b.undo();
+            due.is("parts behind undo of " + at, 100 + at, () -> b.setPart(asked / 8, asked % 8, 100 + asked));
+        }
+    }
+
+    /** Terms 12: "all .. as it was before", what is told of each of 20 doughs. */
+    private static void undoesTwentyDoughs() {
+        Bakery b = Made.hot(20);
+        b.shape(18);
+        b.bake(0);
+        b.bake(19);
+        b.pass(15);
+        b.setWarmth(5);
+        b.pass(200);
+        b.undo();
+        for (int dough = 0; dough < 20; dough++) {
+            boolean isBaked = dough == 0 || dough == 19;
+            boolean isShaped = dough == 18;
+            int[] want = {0, dough + 1, 2, isBaked ? OvenRound.BAKED : isShaped ? OvenRound.WAITING : OvenRound.RISING,
+                50 * (dough + 1), isShaped ? 20 : OvenRound.NONE, isBaked ? 20 : OvenRound.NONE};
+            for (int what = 0; what < want.length; what++) {
+                int asked = dough;
+                int askedWhat = what;
+                due.is("doughAt(" + dough + ", " + what + ")", want[what], () -> b.doughAt(asked, askedWhat));
+            }
+        }
+        due.is("now", 35, () -> b.now());
+        due.is("warmth", 5, () -> b.setWarmth(0));
+    }
+
+    /** Terms 12, with 3: a dough that is undone leaves nothing to the next one of its number, "made RISING, with 0 points". */
+    private static void makesADoughAnew() {
+        Bakery b = Made.withRecipes(1);
+        b.setHeat(100);
+        b.pass(20);
+        b.mix(0, 3);
+        b.pass(10);
+        b.shape(0);
+        b.bake(0);
+        b.pass(10);
+        due.is("baked", 3, () -> b.breads(0, 0));
+        for (int i = 0; i < 5; i++) {
+            b.undo();
+        }
+        due.is("the dough 0 again", 0, () -> b.mix(0, 2));
+        int[] want = {0, 2, 0, OvenRound.RISING, 100, OvenRound.NONE, OvenRound.NONE};
+        for (int what = 0; what < want.length; what++) {
+            int asked = what;
+            due.is("doughAt(0, " + what + ")", want[what], () -> b.doughAt(0, asked));
+        }
+        due.is("breads", 0, () -> b.breads(0, 0));
+        due.is("a tick later", 21, () -> b.pass(1));
+        due.is("points a tick later", 2, () -> b.doughAt(0, 2));
     }
 
     /** Terms 12: undo behind the last of all numbers makes them free again: doughs, recipes, shops, notes. */
