@@ -207,6 +207,16 @@ public final class CartEdgesTest {
                 .refusesOutside(Due.ARGUMENT, 0, 600);
     }
 
+    /** Promise 37: "NoSuchElementException if no way meets all hours": a minute makes the difference. */
+    private static void tellsNoShopsOfNoWay() {
+        due.edge("shopOf(begin, 1) in time for the minute 40",
+                () -> Made.withShops(shop(0, 0, 0, 600, 0), shop(20, 20, 0, 40, 0)), (b, begin) -> b.shopOf(begin, 1))
+                .takes(0, 1).refuses(Due.ELEMENT, 1, 600);
+        due.edge("shopOf(0, index) of no way",
+                () -> Made.withShops(shop(0, 0, 0, 600, 0), shop(20, 20, 0, 39, 0)), (b, index) -> b.shopOf(0, index))
+                .refuses(Due.ELEMENT, 0, 1).refuses(Due.INDEX, 2);
+    }
+
     /** Promise 37, with Terms 13: the index is ahead of the begin, the begin ahead of no way. */
     private static void namesShopFaultsInTheirOrder() {
         Bakery b = Made.withShops(shop(20, 20, 0, 39, 0));

@@ -295,6 +295,20 @@ public final class DoughEdgesTest {
         due.refuses(Due.STATE, "201 points", Made.withPoints(201, 1, 200, 201), b -> b.shape(0));
     }
 
+    /** Promise 14: "or its points are not within the bounds of its recipe", a tick too early and a tick too late. */
+    private static void refusesToShapeTooEarlyAndTooLate() {
+        Bakery b = Due.withRecipe(50, 6, 9, 100);
+        b.mix(0, 1);
+        b.pass(2);
+        due.refuses(Due.STATE, "4 points", b, x -> x.shape(0));
+        b.pass(1);
+        due.is("6 points", 6, b.again(), x -> x.shape(0));
+        b.pass(1);
+        due.is("8 points", 8, b.again(), x -> x.shape(0));
+        b.pass(1);
+        due.refuses(Due.STATE, "10 points", b, x -> x.shape(0));
+    }
+
     /** Promise 14: "IllegalStateException if it is not RISING". */
     private static void shapesRisingDoughsAlone() {
         due.is("a RISING one", 2, Made.withEachState(), b -> b.shape(0));
@@ -327,6 +341,10 @@ public final class DoughEdgesTest {
     private static void tellsWhatIsAsked() {
         due.edge("doughAt(3, what)", Made::withEachState, (b, what) -> b.doughAt(3, what)).takes(0, 0).takes(6, 20)
                 .refusesOutside(Due.ARGUMENT, 0, 6);
+    }
+
+    /** Promise 15, with Terms 13: no such dough is ahead of what is not 0 to 6. */
+    private static void namesAWrongDoughAheadOfWhatIsAsked() {
         due.refuses(Due.INDEX, "doughAt(5, 7)", Made.withEachState(), b -> b.doughAt(5, 7));
         due.refuses(Due.INDEX, "doughAt(-1, -1)", Made.withEachState(), b -> b.doughAt(-1, -1));
     }

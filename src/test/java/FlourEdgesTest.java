@@ -10,6 +10,11 @@ public final class FlourEdgesTest {
         return new int[] {strength, cost, cap};
     }
 
+    /** All caps together are a percent too little. */
+    private static Bakery withoutMix() {
+        return Made.withFlours(flour(1, 1, 24), flour(1, 1, 25), flour(1, 1, 25), flour(1, 1, 25));
+    }
+
     /** The cost first, then the shares of the flours 0 to 3, as texts. */
     private static void mixes(String what, Bakery b, int low, int high, String... want) {
         due.is(what + ": cost", want[0], () -> b.mixCost(low, high, false) + "/" + b.mixCost(low, high, true));
@@ -83,19 +88,29 @@ public final class FlourEdgesTest {
     }
 
     /** Promise 30, low: "0 to 200"; "IllegalArgumentException if low or high is out of range". */
-    private static void takesLowBounds() {
+    private static void costsByLowBounds() {
         due.edge("mixCost(low, 200, false)", Bakery::new, (b, low) -> b.mixCost(low, 200, false)).takes(0, 50)
                 .takes(100, 50).refuses(Due.ELEMENT, 101, 200).refusesOutside(Due.ARGUMENT, 0, 200);
-        due.edge("mixShare(low, 200, 3, true)", Bakery::new, (b, low) -> b.mixShare(low, 200, 3, true)).takes(0, 1)
-                .takes(100, 1).refuses(Due.ELEMENT, 101, 200).refusesOutside(Due.ARGUMENT, 0, 200);
         due.edge("mixCost(low, low, true)", Bakery::new, (b, low) -> b.mixCost(low, low, true)).takes(100, 1)
                 .refuses(Due.ELEMENT, 0, 200).refuses(Due.ARGUMENT, -1, 201);
     }
 
+    /** Promise 31, low: "0 to 200"; "IllegalArgumentException if low or high is out of range". */
+    private static void sharesByLowBounds() {
+        due.edge("mixShare(low, 200, 3, true)", Bakery::new, (b, low) -> b.mixShare(low, 200, 3, true)).takes(0, 1)
+                .takes(100, 1).refuses(Due.ELEMENT, 101, 200).refusesOutside(Due.ARGUMENT, 0, 200);
+        due.edge("mixShare(low, low, 3, false)", Bakery::new, (b, low) -> b.mixShare(low, low, 3, false)).takes(100, 1)
+                .refuses(Due.ELEMENT, 0, 200).refuses(Due.ARGUMENT, -1, 201);
+    }
+
     /** Promise 30, high: "low to 200". */
-    private static void takesHighBounds() {
+    private static void costsByHighBounds() {
         due.edge("mixCost(100, high, false)", Bakery::new, (b, high) -> b.mixCost(100, high, false)).takes(100, 50)
                 .takes(200, 50).refuses(Due.ARGUMENT, 0).refusesOutside(Due.ARGUMENT, 100, 200);
+    }
+
+    /** Promise 31, high: "low to 200". */
+    private static void sharesByHighBounds() {
         due.edge("mixShare(100, high, 3, true)", Bakery::new, (b, high) -> b.mixShare(100, high, 3, true))
                 .takes(100, 1).takes(200, 1).refuses(Due.ARGUMENT, 0).refusesOutside(Due.ARGUMENT, 100, 200);
     }
@@ -107,13 +122,42 @@ public final class FlourEdgesTest {
     }
 
     /** Promise 31, with Terms 13: the flour is ahead of the bounds, the bounds ahead of no mix. */
-    private static void namesMixingFaultsInTheirOrder() {
+    private static void namesSharingFaultsInTheirOrder() {
         due.refuses(Due.INDEX, "mixShare(-1, 201, 4)", new Bakery(), b -> b.mixShare(-1, 201, 4, false));
         due.refuses(Due.INDEX, "mixShare(0, 99, -1)", new Bakery(), b -> b.mixShare(0, 99, -1, false));
-        Bakery none = Made.withFlours(flour(1, 1, 24), flour(1, 1, 25), flour(1, 1, 25), flour(1, 1, 25));
-        due.refuses(Due.ARGUMENT, "mixShare(5, 4, 0) of no mix", none, b -> b.mixShare(5, 4, 0, true));
-        due.refuses(Due.ARGUMENT, "mixCost(-1, 200) of no mix", none, b -> b.mixCost(-1, 200, true));
-        due.refuses(Due.ARGUMENT, "mixCost(0, 201) of no mix", none, b -> b.mixCost(0, 201, true));
+        due.refuses(Due.INDEX, "mixShare(0, 200, 4) of no mix", withoutMix(), b -> b.mixShare(0, 200, 4, true));
+        due.refuses(Due.ARGUMENT, "mixShare(5, 4, 0) of no mix", withoutMix(), b -> b.mixShare(5, 4, 0, true));
+        due.refuses(Due.ARGUMENT, "mixShare(-1, 200, 0) of no mix", withoutMix(), b -> b.mixShare(-1, 200, 0, false));
+        due.refuses(Due.ARGUMENT, "mixShare(0, 201, 3) of no mix", withoutMix(), b -> b.mixShare(0, 201, 3, true));
+    }
+
+    /** Promise 30, with Terms 13: the bounds are ahead of no mix. */
+    private static void namesWrongBoundsAheadOfNoMix() {
+        due.refuses(Due.ARGUMENT, "mixCost(5, 4) of no mix", withoutMix(), b -> b.mixCost(5, 4, false));
+        due.refuses(Due.ARGUMENT, "mixCost(-1, 200) of no mix", withoutMix(), b -> b.mixCost(-1, 200, true));
+        due.refuses(Due.ARGUMENT, "mixCost(0, 201) of no mix", withoutMix(), b -> b.mixCost(0, 201, true));
+    }
+
+    /** Promise 30: "NoSuchElementException if there is no such mix", be the bounds as wide as can be. */
+    private static void costsNothingWithoutAMix() {
+        due.edge("mixCost(low, 200, false) of no mix", FlourEdgesTest::withoutMix, (b, low) -> b.mixCost(low, 200, false))
+                .refuses(Due.ELEMENT, 0, 1, 200);
+        due.edge("mixCost(0, high, true) of no mix", FlourEdgesTest::withoutMix, (b, high) -> b.mixCost(0, high, true))
+                .refuses(Due.ELEMENT, 0, 1, 200);
+        Bakery b = withoutMix();
+        b.setFlour(0, 1, 1, 25);
+        due.is("a percent more makes a mix", 1, () -> b.mixCost(0, 200, true));
+    }
+
+    /** Promise 31: "NoSuchElementException if there is no such mix", for each flour. */
+    private static void sharesNothingWithoutAMix() {
+        due.edge("mixShare(0, 200, flour, false) of no mix", FlourEdgesTest::withoutMix,
+                (b, flour) -> b.mixShare(0, 200, flour, false)).refuses(Due.ELEMENT, 0, 1, 2, 3);
+        due.edge("mixShare(1, 1, flour, true) of no mix", FlourEdgesTest::withoutMix,
+                (b, flour) -> b.mixShare(1, 1, flour, true)).refuses(Due.ELEMENT, 0, 1, 2, 3);
+        Bakery b = withoutMix();
+        b.setFlour(0, 1, 1, 25);
+        due.is("a percent more makes a mix", 4, () -> b.mixShare(0, 200, 0, true));
     }
 
     /** Terms 7: "a share, from 0 to its cap, all shares together 1": caps that are just enough, and a percent less. */

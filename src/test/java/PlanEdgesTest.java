@@ -66,6 +66,24 @@ public final class PlanEdgesTest {
                 .takes(19, 110).refusesOutside(Due.INDEX, 0, 19);
     }
 
+    /** Promise 22: "NONE if the plan gives it none": doughs that are not in the plan, and one that is late. */
+    private static void tellsOfNoRound() {
+        int[] want = {30, 30, OvenRound.NONE, OvenRound.NONE, OvenRound.NONE};
+        for (int state = 0; state <= 4; state++) {
+            int dough = state;
+            due.is("planned in the state " + state, want[state], Made.withEachState(), b -> b.planned(dough));
+        }
+        due.is("points above the high bound", OvenRound.NONE, Made.withPoints(10, 5, 9, 20), b -> b.planned(0));
+        Bakery late = Made.hot(3);
+        for (int dough = 0; dough < 3; dough++) {
+            late.shape(dough);
+        }
+        late.setWait(0, 9);
+        due.is("the second of two decks", 20, () -> late.planned(1));
+        due.is("the third dough on two decks", OvenRound.NONE, () -> late.planned(2));
+        due.is("which is late", 1, () -> late.late());
+    }
+
     /** Promises 23 and 24: without doughs there is none in the plan. */
     private static void plansNothing() {
         plans("without recipes", new Bakery(), 0, 0);
