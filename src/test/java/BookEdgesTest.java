@@ -91,6 +91,8 @@ public final class BookEdgesTest {
     /** Promise 46: "the sum of their ages .. divided by their number": the least, the greatest and one between. */
     private static void tellsTheMeanAge() {
         due.is("the age 0", 0.0, Made.baked(7), b -> b.meanAge());
+        due.is("one bread of the age 1", 1.0, Made.baked(1, 0), b -> b.meanAge());
+        due.is("one bread of the age 3", 3.0, Made.baked(1, 0, 0, 0), b -> b.meanAge());
         due.is("the age 3", 3.0, Made.baked(7, 0, 0, 0), b -> b.meanAge());
         due.is("the ages 3 and 0", 1.5, Made.baked(7, 0, 0, 7), b -> b.meanAge());
         due.is("a third", 1.0 / 3.0, Made.baked(1, 2), b -> b.meanAge());

@@ -152,6 +152,16 @@ public final class TextEdgesTest {
         fault(80, " ".repeat(80), "0:" + " ".repeat(78), " ".repeat(79) + "0", "0:1" + " ".repeat(76) + ",");
     }
 
+    /** Terms 11: "must be greater than the good of the part ahead of it": no part can stand behind that of the good 7. */
+    private static void endsWithTheGreatestGood() {
+        String all = "0:1,1:1,2:1,3:1,4:1,5:1,6:1,7:1,";
+        fault(32, all, all + ":", all + ",", all + "7", all + "8:1", all + "0:1", all + "9999 9");
+        fault(33, all + " ", all + " ,", all + " 8:1");
+        fault(36, all + "12345", all + "00000");
+        fault(80, all + " ".repeat(48));
+        fault(5, "7:1, ", "7:1, 7:1", "7:1, 8", "7:1, x");
+    }
+
     /** Terms 11: "parts, with a comma between two": none ahead of the first one, none for two. */
     private static void needsACommaBetweenTwo() {
         right("0:1,1:2", "0:1,1:2,2:3", "0:1,1:2,2:3,3:4,4:5,5:6,6:7,7:8");
