@@ -258,6 +258,47 @@ public final class UndoEdgesTest {
         }
     }
 
+    /** Terms 12: what stood ahead of each of the 8 acts comes back, whichever ones they are and however many were ahead. */
+    private static void bringsBackEachOfEightActs() {
+        for (int first = 0; first < ACTS.size(); first++) {
+            Bakery b = busy();
+            ArrayDeque<String> looks = new ArrayDeque<>();
+            for (int i = 0; i < ACTS.size() && looks.size() < 8; i++) {
+                Due.Question act = ACTS.get((first + i) % ACTS.size());
+                String look = Look.atNow(b, 350);
+                if (Due.answerOf(() -> act.of(b)) instanceof Integer) {
+                    looks.push(look);
+                }
+            }
+            due.is("acts from " + first + " on", 8, () -> b.actCount());
+            for (int left = 7; left >= 0; left--) {
+                String name = "acts from " + first + " on, " + left + " of them left";
+                due.is(name, left, () -> b.undo());
+                due.is(name + ": the bakery", looks.pop(), () -> Look.atNow(b, 350));
+            }
+        }
+    }
+
+    /** Terms 12, with promise 41: "all .. as it was before", the books of what was sold and of what was thrown away. */
+    private static void bringsBackBooks() {
+        for (int ahead = 0; ahead < 8; ahead++) {
+            Bakery sold = Made.baked(40);
+            Bakery thrown = Made.withDoughs(16);
+            for (int i = 0; i < ahead + 8; i++) {
+                sold.sell(0, 1);
+                thrown.throwAway(i);
+            }
+            for (int left = ahead + 7; left >= ahead; left--) {
+                int grams = 50 * left;
+                sold.undo();
+                thrown.undo();
+                due.is("sold " + left, grams, () -> sold.book(1));
+                due.is("thrown away " + left, grams, () -> thrown.book(2));
+                due.is("thrown share of " + left, (float) grams / 200000.0f, () -> thrown.thrownShare());
+            }
+        }
+    }
+
     /** Terms 12: undo of pass() brings back the tick, the heat, the points, the doughs in the oven and the breads. */
     private static void undoesTime() {
         Bakery b = Made.hot(3);
